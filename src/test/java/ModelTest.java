@@ -1,0 +1,392 @@
+import java.util.ArrayList;
+import java.util.HashMap;
+import java.util.HashSet;
+import java.util.List;
+import java.util.Map;
+import java.util.Set;
+import java.util.TreeMap;
+
+/**
+ * Long runs of calls, the same each time, answered alike by the program and by a model that is held
+ * as the document's words go: cells know whether they are gifts, and nothing is counted ahead.
+ */
+final class ModelTest {
+    private static final int RUNS = 400;
+    private static final int CALLS = 500;
+    private static final int ILLEGAL = -1000;
+    private static final int FULL = -2000;
+    /** Few labels, so that files meet: some flow to others, some do not. */
+    private static final int[] LABELS = {Check.LOW, Check.MID, Check.HIGH, Check.ASIDE, 0, 1023, 704, 193,
+        Check.label(0, 0, 3, 2), Check.label(0, 1, 3, 3), Check.label(0, 0, 2, 3), Check.label(1, 0, 3, 3)};
+
+    private static long state;
+
+    public static void main(String[] args) {
+        for (int run = 0; run < RUNS; run++) {
+            state = run;
+            compare(run);
+        }
+        Check.close("the model");
+    }
+
+    private static void compare(int run) {
+        TierHouse house = new TierHouse();
+        Model model = new Model();
+        boolean crowded = run % 4 == 3;
+        for (int k = 0; k < CALLS; k++) {
+            int[] call = k < LABELS.length ? new int[] {0, k, LABELS[k], 0, 0} : crowded ? crowd(k) : any();
+            Check.same("run " + run + ", call " + k + " " + java.util.Arrays.toString(call),
+                ask(house, call), model.ask(call));
+        }
+    }
+
+    private static int below(int bound) {
+        state = state * 6364136223846793005L + 1442695040888963407L;
+        return (int) ((state >>> 33) % bound);
+    }
+
+    private static int someLabel() {
+        return below(60) == 0 ? below(1030) - 3 : LABELS[below(LABELS.length)];
+    }
+
+    private static int someNumber() {
+        return below(80) == 0 ? below(2) * 17 - 1 : below(3);
+    }
+
+    private static int someSubject() {
+        return below(80) == 0 ? below(2) * 17 - 1 : below(LABELS.length + 1);
+    }
+
+    private static int someFolder() {
+        return below(3) == 0 ? TierHouse.NONE : 16 * someLabel() + someNumber();
+    }
+
+    private static int someCell() {
+        return below(30) == 0 ? below(27) - 1 : below(4);
+    }
+
+    private static int[] any() {
+        int kind = below(20);
+        int subject = someSubject();
+        int label = someLabel();
+        switch (kind < 16 ? kind : below(4) + 4) {
+            case 0: return new int[] {0, subject, label, 0, 0};
+            case 1: return new int[] {1, label, below(10) == 0 ? below(1004) - 2 : below(25), 0, 0};
+            case 2: return new int[] {2, subject, label, someLabel(), below(4) == 0 ? 0 : 1};
+            case 3: return new int[] {3, label, someLabel(), 0, 0};
+            case 4: return new int[] {4, subject, label, someNumber(), someFolder()};
+            case 5: return new int[] {5, subject, someNumber(), someCell(), below(1000)};
+            case 6: return new int[] {6, subject, label, someNumber(), below(1000)};
+            case 7: return new int[] {5, subject, someNumber(), below(3), below(1000)};
+            case 8: return new int[] {7, subject, someNumber(), someCell(), 0};
+            case 9: return new int[] {8, subject, someNumber(), 0, 0};
+            case 10: return new int[] {9, subject, label, someNumber(), someCell()};
+            case 11: return new int[] {10 + below(2), subject, label, someNumber(), 0};
+            case 12: return new int[] {12, subject, label, someNumber(), 0};
+            case 13: return new int[] {13, below(3), LABELS[below(3)], someNumber(), LABELS[below(3)]};
+            case 14: return new int[] {14, subject, below(5) - 1, 0, 0};
+            default: return new int[] {15, label, below(50) == 0 ? below(2) * 5 - 1 : below(4), 0, 0};
+        }
+    }
+
+    /** Many files and wide quotas, so that 200 are met. */
+    private static int[] crowd(int k) {
+        if (k < 2 * LABELS.length) {
+            return new int[] {1, LABELS[k - LABELS.length], 1000, 0, 0};
+        }
+        if (k < 3 * LABELS.length) {
+            return new int[] {2, below(3), LABELS[below(3)], LABELS[below(3)], 1};
+        }
+        switch (below(12)) {
+            case 0: return any();
+            case 1: return new int[] {8, below(LABELS.length), below(16), 0, 0};
+            case 2: return new int[] {13, below(3), LABELS[below(3)], below(16), LABELS[below(3)]};
+            case 3: return new int[] {12, 2, LABELS[below(3)], below(3), 0};
+            case 4: return new int[] {14, 2, below(60), 0, 0};
+            case 5: {
+                int own = below(LABELS.length);
+                return new int[] {4, own, LABELS[own], below(16), TierHouse.NONE};
+            }
+            default: return new int[] {4, below(2), LABELS[below(4)] + below(2) * 4, below(16),
+                16 * Check.LOW + below(2)};
+        }
+    }
+
+    private static int ask(TierHouse x, int[] c) {
+        try {
+            switch (c[0]) {
+                case 0: return x.subject(c[1], c[2]) ? 1 : 0;
+                case 1: return x.quota(c[1], c[2]);
+                case 2: return x.list(c[1], c[2], c[3], c[4] == 1) ? 1 : 0;
+                case 3: return x.flows(c[1], c[2]) ? 1 : 0;
+                case 4: return x.make(c[1], c[2], c[3], c[4]);
+                case 5: return x.set(c[1], c[2], c[3], c[4]);
+                case 6: return x.give(c[1], c[2], c[3], c[4]);
+                case 7: return x.trim(c[1], c[2], c[3]);
+                case 8: return x.remove(c[1], c[2]);
+                case 9: return x.read(c[1], c[2], c[3], c[4]);
+                case 10: return x.size(c[1], c[2], c[3]);
+                case 11: return x.there(c[1], c[2], c[3]);
+                case 12: return x.listed(c[1], c[2], c[3]);
+                case 13: return x.release(c[1], c[2], c[3], c[4]);
+                case 14: return x.seen(c[1], c[2]);
+                default: return x.told(c[1], c[2]);
+            }
+        } catch (IllegalArgumentException e) {
+            return ILLEGAL;
+        } catch (UnsupportedOperationException e) {
+            return FULL;
+        }
+    }
+
+    private record Cell(int value, boolean gift) {
+    }
+
+    private static final class Paper {
+        final int folder;
+        boolean gift;
+        List<Cell> cells = new ArrayList<>();
+
+        Paper(int folder, boolean gift) {
+            this.folder = folder;
+            this.gift = gift;
+        }
+    }
+
+    private static final class Model {
+        private final Map<Integer, Integer> labels = new HashMap<>();
+        private final Map<Integer, Integer> quotas = new HashMap<>();
+        private final Map<Integer, Integer> spent = new HashMap<>();
+        private final Set<List<Integer>> listings = new HashSet<>();
+        private final TreeMap<Integer, Paper> papers = new TreeMap<>();
+        private final Map<Integer, List<Integer>> sights = new HashMap<>();
+
+        int ask(int[] c) {
+            switch (c[0]) {
+                case 0: return !subject(c[1]) || !label(c[2]) ? ILLEGAL : labels.putIfAbsent(c[1], c[2]) == null ? 1 : 0;
+                case 1: return quota(c[1], c[2]);
+                case 2: return list(c[1], c[2], c[3], c[4] == 1);
+                case 3: return !label(c[1]) || !label(c[2]) ? ILLEGAL : flow(c[1], c[2]) ? 1 : 0;
+                case 14: return !subject(c[1]) ? ILLEGAL : sight(c[1], c[2]);
+                case 15: return !label(c[1]) || c[2] < 0 || c[2] > 3 ? ILLEGAL : told(c[1], c[2]);
+                default: return request(c);
+            }
+        }
+
+        private int request(int[] c) {
+            boolean atOwn = c[0] == 5 || c[0] == 7 || c[0] == 8;
+            if (!subject(c[1]) || !number(c[atOwn ? 2 : 3]) || !atOwn && !label(c[2]) || !lastFits(c)) {
+                return ILLEGAL;
+            }
+            List<Integer> sight = new ArrayList<>();
+            Integer own = labels.get(c[1]);
+            int answer = own == null ? -1 : answer(c, own, sight);
+            if (answer != FULL) {
+                sights.put(c[1], sight);
+            }
+            return answer;
+        }
+
+        private boolean lastFits(int[] c) {
+            switch (c[0]) {
+                case 4: return c[4] >= -1 && c[4] < 16384;
+                case 5: return c[3] >= 0 && c[3] < 24;
+                case 7: return c[3] >= 0 && c[3] <= 24;
+                case 9: return c[4] >= 0 && c[4] < 24;
+                case 13: return label(c[4]);
+                default: return true;
+            }
+        }
+
+        private int answer(int[] c, int own, List<Integer> sight) {
+            if (c[0] >= 9 && c[0] <= 12 && !flow(c[2], own)) {
+                return -2;
+            }
+            Paper paper = papers.get(16 * c[2] + c[3]);
+            switch (c[0]) {
+                case 4: return make(own, c[2], 16 * c[2] + c[3], c[4]);
+                case 5: return set(own, papers.get(16 * own + c[2]), c[3], c[4]);
+                case 6: return give(own, c[2], paper, c[4]);
+                case 7: return trim(papers.get(16 * own + c[2]), c[3]);
+                case 8: return papers.remove(16 * own + c[2]) == null ? 0 : 1;
+                case 9: return read(paper, c[4], sight);
+                case 10: return paper == null ? 0 : paper.cells.size();
+                case 11: return paper == null ? 0 : 1;
+                case 12: return listed(own, 16 * c[2] + c[3], sight);
+                default: return release(c[1], c[2], c[3], c[4]);
+            }
+        }
+
+        private int make(int own, int label, int key, int folder) {
+            if (!flow(own, label) || folder != -1 && !flow(folder / 16, label)) {
+                return -2;
+            }
+            boolean there = papers.containsKey(key);
+            if (there && label == own) {
+                return 0;
+            }
+            if (used(own) >= quotaOf(own)) {
+                return -3;
+            }
+            if (!there && papers.size() == 200) {
+                return FULL;
+            }
+            if (!there) {
+                papers.put(key, new Paper(folder, label != own));
+            }
+            if (label != own) {
+                spent.merge(own, 1, Integer::sum);
+            }
+            return label == own ? 1 : 2;
+        }
+
+        private int set(int own, Paper paper, int i, int value) {
+            if (paper == null || i > paper.cells.size()) {
+                return 0;
+            }
+            if (i < paper.cells.size()) {
+                paper.cells.set(i, new Cell(value, paper.cells.get(i).gift));
+                return 1;
+            }
+            if (used(own) >= quotaOf(own)) {
+                return -3;
+            }
+            paper.cells.add(new Cell(value, false));
+            return 1;
+        }
+
+        private int give(int own, int label, Paper paper, int value) {
+            if (own == label || !flow(own, label)) {
+                return -2;
+            }
+            if (used(own) >= quotaOf(own)) {
+                return -3;
+            }
+            spent.merge(own, 1, Integer::sum);
+            if (paper != null && paper.cells.size() < 24) {
+                paper.cells.add(new Cell(value, true));
+            }
+            return 2;
+        }
+
+        private int trim(Paper paper, int n) {
+            int gone = 0;
+            while (paper != null && paper.cells.size() > n) {
+                paper.cells.remove(paper.cells.size() - 1);
+                gone++;
+            }
+            return gone;
+        }
+
+        private int read(Paper paper, int i, List<Integer> sight) {
+            if (paper == null || i >= paper.cells.size()) {
+                return 0;
+            }
+            sight.add(paper.cells.get(i).value);
+            return 1;
+        }
+
+        private int listed(int own, int folder, List<Integer> sight) {
+            papers.forEach((key, paper) -> {
+                if (paper.folder == folder && flow(key / 16, own)) {
+                    sight.add(key);
+                }
+            });
+            return sight.size();
+        }
+
+        private int release(int subject, int label, int number, int to) {
+            if (!listings.contains(List.of(subject, label, to))) {
+                return -2;
+            }
+            Paper source = papers.get(16 * label + number);
+            if (source == null) {
+                return 0;
+            }
+            Paper old = papers.get(16 * to + number);
+            Paper copy = new Paper(old == null ? -1 : old.folder, false);
+            for (Cell cell : source.cells) {
+                copy.cells.add(new Cell(cell.value, false));
+            }
+            papers.put(16 * to + number, copy);
+            int answer = used(to) > quotaOf(to) ? -3 : papers.size() > 200 ? FULL : 1;
+            if (answer != 1 && old == null) {
+                papers.remove(16 * to + number);
+            } else if (answer != 1) {
+                papers.put(16 * to + number, old);
+            }
+            return answer;
+        }
+
+        private int quota(int label, int cells) {
+            if (!label(label) || cells < 0 || cells > 1000) {
+                return ILLEGAL;
+            }
+            int was = quotaOf(label);
+            quotas.put(label, cells);
+            return was;
+        }
+
+        private int list(int subject, int from, int to, boolean listed) {
+            if (!subject(subject) || !label(from) || !label(to) || from == to) {
+                return ILLEGAL;
+            }
+            List<Integer> listing = List.of(subject, from, to);
+            boolean was = listings.contains(listing);
+            if (listed && !was && listings.size() == 32) {
+                return FULL;
+            }
+            if (listed) {
+                listings.add(listing);
+            } else {
+                listings.remove(listing);
+            }
+            return was ? 1 : 0;
+        }
+
+        private int told(int label, int what) {
+            switch (what) {
+                case 0: return used(label);
+                case 1: return spent.getOrDefault(label, 0);
+                case 2: return quotaOf(label);
+                default: return papers.subMap(16 * label, 16 * label + 16).size();
+            }
+        }
+
+        private int used(int label) {
+            int used = spent.getOrDefault(label, 0);
+            for (Paper paper : papers.subMap(16 * label, 16 * label + 16).values()) {
+                used += paper.gift ? 0 : 1;
+                for (Cell cell : paper.cells) {
+                    used += cell.gift ? 0 : 1;
+                }
+            }
+            return used;
+        }
+
+        private int quotaOf(int label) {
+            return quotas.getOrDefault(label, 40);
+        }
+
+        private int sight(int subject, int i) {
+            List<Integer> sight = sights.getOrDefault(subject, List.of());
+            return i >= 0 && i < sight.size() ? sight.get(i) : 0;
+        }
+
+        private static boolean flow(int a, int b) {
+            return a % 4 <= b % 4 && (a & b & 60) == (a & 60) && a / 64 % 4 >= b / 64 % 4 && (a & b & 768) == (b & 768);
+        }
+
+        private static boolean subject(int subject) {
+            return subject >= 0 && subject < 16;
+        }
+
+        private static boolean label(int label) {
+            return label >= 0 && label < 1024;
+        }
+
+        private static boolean number(int number) {
+            return number >= 0 && number < 16;
+        }
+    }
+}
