@@ -1,4 +1,5 @@
 import java.util.ArrayList;
+import java.util.Arrays;
 import java.util.HashMap;
 import java.util.HashSet;
 import java.util.List;
@@ -16,8 +17,8 @@ final class ModelTest {
     private static final int ILLEGAL = -1000;
     private static final int FULL = -2000;
     /** Few labels, so that files meet: some flow to others, some do not. */
-    private static final int[] LABELS = {Check.LOW, Check.MID, Check.HIGH, Check.ASIDE, 0, 1023, 704, 193,
-        Check.label(0, 0, 3, 2), Check.label(0, 1, 3, 3), Check.label(0, 0, 2, 3), Check.label(1, 0, 3, 3)};
+    private static final int[] LABELS = {Check.LOW, Check.MID, Check.HIGH, Check.ASIDE,
+        Check.label(1, 3, 1, 1), Check.label(0, 0, 3, 2)};
 
     private static long state;
 
@@ -32,10 +33,9 @@ final class ModelTest {
     private static void compare(int run) {
         TierHouse house = new TierHouse();
         Model model = new Model();
-        boolean crowded = run % 4 == 3;
         for (int k = 0; k < CALLS; k++) {
-            int[] call = k < LABELS.length ? new int[] {0, k, LABELS[k], 0, 0} : crowded ? crowd(k) : any();
-            Check.same("run " + run + ", call " + k + " " + java.util.Arrays.toString(call),
+            int[] call = k < LABELS.length ? new int[] {0, k, LABELS[k], 0, 0} : run % 4 == 3 ? crowding(model, k) : any(model);
+            Check.same("run " + run + ", call " + k + " " + Arrays.toString(call),
                 ask(house, call), model.ask(call));
         }
     }
@@ -45,71 +45,91 @@ final class ModelTest {
         return (int) ((state >>> 33) % bound);
     }
 
+    private static boolean seldom() {
+        return below(80) == 0;
+    }
+
     private static int someLabel() {
-        return below(60) == 0 ? below(1030) - 3 : LABELS[below(LABELS.length)];
+        return seldom() ? below(2) * 1025 - 1 : LABELS[below(LABELS.length)];
     }
 
     private static int someNumber() {
-        return below(80) == 0 ? below(2) * 17 - 1 : below(3);
+        return seldom() ? below(2) * 17 - 1 : below(2);
     }
 
     private static int someSubject() {
-        return below(80) == 0 ? below(2) * 17 - 1 : below(LABELS.length + 1);
+        return seldom() ? below(18) - 1 : below(LABELS.length);
     }
 
     private static int someFolder() {
-        return below(3) == 0 ? TierHouse.NONE : 16 * someLabel() + someNumber();
+        return below(2) == 0 ? TierHouse.NONE : seldom() ? below(2) * 16386 - 2 : 16 * LABELS[below(2)] + below(2);
     }
 
     private static int someCell() {
-        return below(30) == 0 ? below(27) - 1 : below(4);
+        return seldom() ? below(27) - 1 : below(4) == 0 ? below(24) : below(5);
     }
 
-    private static int[] any() {
-        int kind = below(20);
+    private static int someQuota() {
+        return seldom() ? below(2) * 1002 - 1 : below(16) * 5;
+    }
+
+    /** The kinds are numbered as in ask(); those that fill the house come more often. */
+    private static int[] any(Model model) {
+        int kind = below(36);
         int subject = someSubject();
-        int label = someLabel();
-        switch (kind < 16 ? kind : below(4) + 4) {
-            case 0: return new int[] {0, subject, label, 0, 0};
-            case 1: return new int[] {1, label, below(10) == 0 ? below(1004) - 2 : below(25), 0, 0};
-            case 2: return new int[] {2, subject, label, someLabel(), below(4) == 0 ? 0 : 1};
-            case 3: return new int[] {3, label, someLabel(), 0, 0};
-            case 4: return new int[] {4, subject, label, someNumber(), someFolder()};
-            case 5: return new int[] {5, subject, someNumber(), someCell(), below(1000)};
-            case 6: return new int[] {6, subject, label, someNumber(), below(1000)};
-            case 7: return new int[] {5, subject, someNumber(), below(3), below(1000)};
-            case 8: return new int[] {7, subject, someNumber(), someCell(), 0};
-            case 9: return new int[] {8, subject, someNumber(), 0, 0};
-            case 10: return new int[] {9, subject, label, someNumber(), someCell()};
-            case 11: return new int[] {10 + below(2), subject, label, someNumber(), 0};
-            case 12: return new int[] {12, subject, label, someNumber(), 0};
-            case 13: return new int[] {13, below(3), LABELS[below(3)], someNumber(), LABELS[below(3)]};
+        if (kind == 8 && below(4) != 0) {
+            kind = 7;
+        }
+        switch (kind < 16 ? kind : kind < 28 ? 5 : kind < 31 ? 9 : kind < 34 ? 13 : 4) {
+            case 0: return new int[] {0, subject, someLabel(), 0, 0};
+            case 1: return new int[] {1, someLabel(), someQuota(), 0, 0};
+            case 2: return new int[] {2, subject, LABELS[below(3)], LABELS[below(3)], below(5) == 0 ? 0 : 1};
+            case 3: return new int[] {3, someLabel(), someLabel(), 0, 0};
+            case 4: return new int[] {4, subject, someLabel(), someNumber(), someFolder()};
+            case 5: return setting(model, subject, someNumber());
+            case 6: return new int[] {6, subject, someLabel(), someNumber(), below(1000)};
+            case 7: return new int[] {7, subject, someNumber(), seldom() ? below(2) * 26 - 1 : below(40) % 25, 0};
+            case 8: return new int[] {8, subject, someNumber(), 0, 0};
+            case 13: return new int[] {13, subject, LABELS[below(3)], someNumber(), seldom() ? someLabel() : LABELS[below(3)]};
             case 14: return new int[] {14, subject, below(5) - 1, 0, 0};
-            default: return new int[] {15, label, below(50) == 0 ? below(2) * 5 - 1 : below(4), 0, 0};
+            case 15: return new int[] {15, someLabel(), seldom() ? below(2) * 5 - 1 : below(4), 0, 0};
+            default: return new int[] {kind > 15 ? 9 : kind, subject, someLabel(), someNumber(), someCell()};
         }
     }
 
-    /** Many files and wide quotas, so that 200 are met. */
-    private static int[] crowd(int k) {
-        if (k < 2 * LABELS.length) {
-            return new int[] {1, LABELS[k - LABELS.length], 1000, 0, 0};
+    /** Mostly just behind the last cell, so that files grow. */
+    private static int[] setting(Model model, int subject, int number) {
+        int i = below(3) == 0 ? someCell() : model.nextCell(subject, number);
+        return new int[] {5, subject, number, i, below(1000)};
+    }
+
+    /** First more listings and more files than there may be, then calls round these bounds. */
+    private static int[] crowding(Model model, int k) {
+        if (k < 12) {
+            return new int[] {1, LABELS[k % LABELS.length], 1000, 0, 0};
         }
-        if (k < 3 * LABELS.length) {
-            return new int[] {2, below(3), LABELS[below(3)], LABELS[below(3)], 1};
+        if (k < 48) {
+            int j = k - 12;
+            return new int[] {2, j % 6, LABELS[j / 6 % 3], LABELS[(j / 6 % 3 + 1 + j / 18) % 3], 1};
         }
-        switch (below(12)) {
-            case 0: return any();
-            case 1: return new int[] {8, below(LABELS.length), below(16), 0, 0};
-            case 2: return new int[] {13, below(3), LABELS[below(3)], below(16), LABELS[below(3)]};
-            case 3: return new int[] {12, 2, LABELS[below(3)], below(3), 0};
-            case 4: return new int[] {14, 2, below(60), 0, 0};
-            case 5: {
-                int own = below(LABELS.length);
-                return new int[] {4, own, LABELS[own], below(16), TierHouse.NONE};
-            }
-            default: return new int[] {4, below(2), LABELS[below(4)] + below(2) * 4, below(16),
-                16 * Check.LOW + below(2)};
+        if (k < 250) {
+            return crowdingMake(k - 48);
         }
+        switch (below(9)) {
+            case 0: return any(model);
+            case 1: return new int[] {2, below(6), LABELS[below(3)], LABELS[below(3)], below(2)};
+            case 2: return new int[] {8, below(6), below(16), 0, 0};
+            case 3: return new int[] {12, 2 + below(2), Check.LOW, 0, 0};
+            case 4: return new int[] {14, 2, below(200), 0, 0};
+            case 5: return new int[] {9, 2, LABELS[below(3)], below(16), 0};
+            case 6: return crowdingMake(below(240));
+            default: return new int[] {13, below(6), LABELS[below(3)], below(16), LABELS[below(3)]};
+        }
+    }
+
+    private static int[] crowdingMake(int place) {
+        int label = place < 48 ? LABELS[place / 16] : Check.fillLabel(place) | 3;
+        return new int[] {4, 0, label, place % 16, 16 * Check.LOW};
     }
 
     private static int ask(TierHouse x, int[] c) {
@@ -171,6 +191,11 @@ final class ModelTest {
                 case 15: return !label(c[1]) || c[2] < 0 || c[2] > 3 ? ILLEGAL : told(c[1], c[2]);
                 default: return request(c);
             }
+        }
+
+        int nextCell(int subject, int number) {
+            Paper paper = papers.get(16 * labels.getOrDefault(subject, 0) + number);
+            return paper == null ? 0 : paper.cells.size();
         }
 
         private int request(int[] c) {

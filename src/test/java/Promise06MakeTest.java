@@ -68,6 +68,8 @@ final class Promise06MakeTest {
         Check.same("third, above", x.make(0, Check.MID, 1, -1), -3);
         Check.same("third, above, there already", x.make(0, Check.MID, 0, -1), -3);
         Check.told("nothing spent", x, Check.LOW, 2, 1, 2, 1);
+        x.quota(Check.LOW, 3);
+        Check.same("own, up to the quota", x.make(0, Check.LOW, 1, -1), 1);
         Check.same("not there", x.there(2, Check.MID, 1), 0);
     }
 
