@@ -1,3 +1,5 @@
+import java.util.Arrays;
+
 /** What the tests share: each wrong answer is printed, and close() ends with exit code 1 if there was one. */
 final class Check {
     /** Labels that flow upwards in this order: less secret and more trusted ones first. */
@@ -7,8 +9,14 @@ final class Check {
     /** Flows neither to MID nor from it, but lies between LOW and HIGH too. */
     static final int ASIDE = label(1, 2, 2, 1);
 
+    /** A secrecy higher, a secret more, a trust lower, a warrant less than MID. */
+    static final int[] JUST_ABOVE_MID = {MID + 1, MID + 8, MID - 64, MID - 256};
+    /** MID may not flow to these: the other way round in one part, ASIDE, and one way in a part, the other in another. */
+    static final int[] NOT_ABOVE_MID = {MID - 1, MID - 4, MID + 64, MID + 512, ASIDE, MID + 1 - 4, MID + 1 + 64, MID + 8 + 512};
+
     private static int checked = 0;
     private static int wrong = 0;
+    private static String sentence = "";
 
     interface Call {
         void run();
@@ -25,12 +33,32 @@ final class Check {
         return 16 * label + number;
     }
 
+    /** The document's words that the next checks hold the program to; SentencesTest finds them in it. */
+    static void sentence(String words) {
+        sentence = "[" + words + "] ";
+    }
+
+    /** A test that throws is wrong, and the others go on. */
+    static void each(Call... tests) {
+        for (Call test : tests) {
+            try {
+                test.run();
+            } catch (RuntimeException e) {
+                wrong("a call threw " + e + " at " + Arrays.toString(e.getStackTrace()));
+            }
+        }
+    }
+
     static void same(String what, int got, int want) {
         checked++;
         if (got != want) {
-            wrong++;
-            System.out.println(what + ": answered " + got + ", due is " + want);
+            wrong(what + ": answered " + got + ", due is " + want);
         }
+    }
+
+    private static void wrong(String what) {
+        wrong++;
+        System.out.println(sentence + what);
     }
 
     static void same(String what, boolean got, boolean want) {
@@ -56,8 +84,21 @@ final class Check {
             }
             got = e.getClass().getName();
         }
-        wrong++;
-        System.out.println(what + ": threw " + got + ", due is " + due.getName());
+        wrong(what + ": threw " + got + ", due is " + due.getName());
+    }
+
+    /** A call that throws nothing where it is legal, and IllegalArgumentException where it is not. */
+    static void legal(String what, boolean legal, Call call) {
+        if (!legal) {
+            illegal(what, call);
+            return;
+        }
+        checked++;
+        try {
+            call.run();
+        } catch (RuntimeException e) {
+            wrong(what + ": threw " + e.getClass().getName() + ", due is nothing");
+        }
     }
 
     /** Uses, spent, quota and number of files of a label in one go. */
@@ -76,14 +117,53 @@ final class Check {
         same(what + ": seen behind the last", x.seen(subject, values.length), 0);
     }
 
+    /**
+     * What can be asked of two peopled houses that should not differ, some 160 calls each. What was
+     * seen comes first, as the requests behind it forget it; the listing goes in the end.
+     */
+    static void alike(String what, TierHouse x, TierHouse y) {
+        for (int subject = 0; subject < 4; subject++) {
+            alikeSeen(what + ", subject " + subject, x, y, subject);
+        }
+        for (int subject = 0; subject < 4; subject++) {
+            int label = ownLabel(subject);
+            told(what + ", label " + label, x, label, y.told(label, 0), y.told(label, 1), y.told(label, 2), y.told(label, 3));
+            for (int number = 0; number < 3; number++) {
+                alikeFile(what + ", file " + number + " at " + label, x, y, label, number);
+            }
+        }
+        same(what + ", listed", x.list(1, MID, LOW, false), y.list(1, MID, LOW, false));
+        same(what + ", subject 4", x.subject(4, LOW), y.subject(4, LOW));
+    }
+
+    private static void alikeSeen(String what, TierHouse x, TierHouse y, int subject) {
+        for (int i = 0; i < 3; i++) {
+            same(what + ": seen " + i, x.seen(subject, i), y.seen(subject, i));
+        }
+    }
+
+    private static void alikeFile(String what, TierHouse x, TierHouse y, int label, int number) {
+        same(what + ": there", x.there(2, label, number), y.there(2, label, number));
+        same(what + ": size", x.size(2, label, number), y.size(2, label, number));
+        for (int i = 0; i < 2; i++) {
+            same(what + ": cell " + i, x.read(2, label, number, i), y.read(2, label, number, i));
+            same(what + ": value " + i, x.seen(2, 0), y.seen(2, 0));
+        }
+        same(what + ": files in it", x.listed(2, label, number), y.listed(2, label, number));
+        alikeSeen(what + ": files in it", x, y, 2);
+    }
+
     /** Subjects 0 to 3 at LOW, MID, HIGH and ASIDE. */
     static TierHouse peopled() {
         TierHouse x = new TierHouse();
-        x.subject(0, LOW);
-        x.subject(1, MID);
-        x.subject(2, HIGH);
-        x.subject(3, ASIDE);
+        for (int subject = 0; subject < 4; subject++) {
+            x.subject(subject, ownLabel(subject));
+        }
         return x;
+    }
+
+    static int ownLabel(int subject) {
+        return new int[] {LOW, MID, HIGH, ASIDE}[subject];
     }
 
     /** A peopled house in which 200 files are there, all made by subject 0: 13 labels, none of them a named one. */
