@@ -17,6 +17,7 @@ final class Check {
     private static int checked = 0;
     private static int wrong = 0;
     private static String sentence = "";
+    private static long state = 0;
 
     interface Call {
         void run();
@@ -29,8 +30,36 @@ final class Check {
         return secrecy + 4 * secrets + 64 * trust + 256 * warrants;
     }
 
+    /** What the document asks, told bit by bit so as not to be the program's own words. */
+    static boolean mayFlow(int from, int to) {
+        if (from % 4 > to % 4 || from / 64 % 4 < to / 64 % 4) {
+            return false;
+        }
+        for (int secret = 4; secret <= 32; secret *= 2) {
+            if (from / secret % 2 == 1 && to / secret % 2 == 0) {
+                return false;
+            }
+        }
+        for (int warrant = 256; warrant <= 512; warrant *= 2) {
+            if (to / warrant % 2 == 1 && from / warrant % 2 == 0) {
+                return false;
+            }
+        }
+        return true;
+    }
+
     static int address(int label, int number) {
         return 16 * label + number;
+    }
+
+    /** Where below() begins, so that a run of numbers is the same each time. */
+    static void seed(int seed) {
+        state = seed;
+    }
+
+    static int below(int bound) {
+        state = state * 6364136223846793005L + 1442695040888963407L;
+        return (int) ((state >>> 33) % bound);
     }
 
     /** The document's words that the next checks hold the program to; SentencesTest finds them in it. */

@@ -20,11 +20,9 @@ final class ModelTest {
     private static final int[] LABELS = {Check.LOW, Check.MID, Check.HIGH, Check.ASIDE,
         Check.label(1, 3, 1, 1), Check.label(0, 0, 3, 2)};
 
-    private static long state;
-
     public static void main(String[] args) {
         for (int run = 0; run < RUNS; run++) {
-            state = run;
+            Check.seed(run);
             compare(run);
         }
         Check.close("the model");
@@ -40,67 +38,65 @@ final class ModelTest {
         }
     }
 
-    private static int below(int bound) {
-        state = state * 6364136223846793005L + 1442695040888963407L;
-        return (int) ((state >>> 33) % bound);
-    }
-
     private static boolean seldom() {
-        return below(80) == 0;
+        return Check.below(80) == 0;
     }
 
     private static int someLabel() {
-        return seldom() ? below(2) * 1025 - 1 : LABELS[below(LABELS.length)];
+        return seldom() ? Check.below(2) * 1025 - 1 : LABELS[Check.below(LABELS.length)];
     }
 
     private static int someNumber() {
-        return seldom() ? below(2) * 17 - 1 : below(2);
+        return seldom() ? Check.below(2) * 17 - 1 : Check.below(2);
     }
 
     private static int someSubject() {
-        return seldom() ? below(18) - 1 : below(LABELS.length);
+        return seldom() ? Check.below(18) - 1 : Check.below(LABELS.length);
     }
 
     private static int someFolder() {
-        return below(2) == 0 ? TierHouse.NONE : seldom() ? below(2) * 16386 - 2 : 16 * LABELS[below(2)] + below(2);
+        if (Check.below(2) == 0) {
+            return TierHouse.NONE;
+        }
+        return seldom() ? Check.below(2) * 16386 - 2 : 16 * LABELS[Check.below(2)] + Check.below(2);
     }
 
     private static int someCell() {
-        return seldom() ? below(27) - 1 : below(4) == 0 ? below(24) : below(5);
+        return seldom() ? Check.below(27) - 1 : Check.below(4) == 0 ? Check.below(24) : Check.below(5);
     }
 
     private static int someQuota() {
-        return seldom() ? below(2) * 1002 - 1 : below(16) * 5;
+        return seldom() ? Check.below(2) * 1002 - 1 : Check.below(16) * 5;
     }
 
     /** The kinds are numbered as in ask(); those that fill the house come more often. */
     private static int[] any(Model model) {
-        int kind = below(36);
+        int kind = Check.below(36);
         int subject = someSubject();
-        if (kind == 8 && below(4) != 0) {
+        if (kind == 8 && Check.below(4) != 0) {
             kind = 7;
         }
         switch (kind < 16 ? kind : kind < 28 ? 5 : kind < 31 ? 9 : kind < 34 ? 13 : 4) {
             case 0: return new int[] {0, subject, someLabel(), 0, 0};
             case 1: return new int[] {1, someLabel(), someQuota(), 0, 0};
-            case 2: return new int[] {2, subject, LABELS[below(3)], LABELS[below(3)], below(5) == 0 ? 0 : 1};
+            case 2: return new int[] {2, subject, LABELS[Check.below(3)], LABELS[Check.below(3)], Check.below(5) == 0 ? 0 : 1};
             case 3: return new int[] {3, someLabel(), someLabel(), 0, 0};
             case 4: return new int[] {4, subject, someLabel(), someNumber(), someFolder()};
             case 5: return setting(model, subject, someNumber());
-            case 6: return new int[] {6, subject, someLabel(), someNumber(), below(1000)};
-            case 7: return new int[] {7, subject, someNumber(), seldom() ? below(2) * 26 - 1 : below(40) % 25, 0};
+            case 6: return new int[] {6, subject, someLabel(), someNumber(), Check.below(1000)};
+            case 7: return new int[] {7, subject, someNumber(), seldom() ? Check.below(2) * 26 - 1 : Check.below(40) % 25, 0};
             case 8: return new int[] {8, subject, someNumber(), 0, 0};
-            case 13: return new int[] {13, subject, LABELS[below(3)], someNumber(), seldom() ? someLabel() : LABELS[below(3)]};
-            case 14: return new int[] {14, subject, below(5) - 1, 0, 0};
-            case 15: return new int[] {15, someLabel(), seldom() ? below(2) * 5 - 1 : below(4), 0, 0};
+            case 13: return new int[] {13, subject, LABELS[Check.below(3)], someNumber(), seldom() ? someLabel() : LABELS[Check.below(3)]};
+            case 14: return new int[] {14, subject, Check.below(5) - 1, 0, 0};
+            case 15: return new int[] {15, someLabel(), seldom() ? Check.below(2) * 5 - 1 : Check.below(4), 0, 0};
             default: return new int[] {kind > 15 ? 9 : kind, subject, someLabel(), someNumber(), someCell()};
         }
     }
 
     /** Mostly just behind the last cell, so that files grow. */
     private static int[] setting(Model model, int subject, int number) {
-        int i = below(3) == 0 ? someCell() : model.nextCell(subject, number);
-        return new int[] {5, subject, number, i, below(1000)};
+        int i = Check.below(3) == 0 ? someCell() : model.nextCell(subject, number);
+        return new int[] {5, subject, number, i, Check.below(1000)};
     }
 
     /** First more listings and more files than there may be, then calls round these bounds. */
@@ -115,15 +111,15 @@ final class ModelTest {
         if (k < 250) {
             return crowdingMake(k - 48);
         }
-        switch (below(9)) {
+        switch (Check.below(9)) {
             case 0: return any(model);
-            case 1: return new int[] {2, below(6), LABELS[below(3)], LABELS[below(3)], below(2)};
-            case 2: return new int[] {8, below(6), below(16), 0, 0};
-            case 3: return new int[] {12, 2 + below(2), Check.LOW, 0, 0};
-            case 4: return new int[] {14, 2, below(200), 0, 0};
-            case 5: return new int[] {9, 2, LABELS[below(3)], below(16), 0};
-            case 6: return crowdingMake(below(240));
-            default: return new int[] {13, below(6), LABELS[below(3)], below(16), LABELS[below(3)]};
+            case 1: return new int[] {2, Check.below(6), LABELS[Check.below(3)], LABELS[Check.below(3)], Check.below(2)};
+            case 2: return new int[] {8, Check.below(6), Check.below(16), 0, 0};
+            case 3: return new int[] {12, 2 + Check.below(2), Check.LOW, 0, 0};
+            case 4: return new int[] {14, 2, Check.below(200), 0, 0};
+            case 5: return new int[] {9, 2, LABELS[Check.below(3)], Check.below(16), 0};
+            case 6: return crowdingMake(Check.below(240));
+            default: return new int[] {13, Check.below(6), LABELS[Check.below(3)], Check.below(16), LABELS[Check.below(3)]};
         }
     }
 
@@ -186,7 +182,7 @@ final class ModelTest {
                 case 0: return !subject(c[1]) || !label(c[2]) ? ILLEGAL : labels.putIfAbsent(c[1], c[2]) == null ? 1 : 0;
                 case 1: return quota(c[1], c[2]);
                 case 2: return list(c[1], c[2], c[3], c[4] == 1);
-                case 3: return !label(c[1]) || !label(c[2]) ? ILLEGAL : flow(c[1], c[2]) ? 1 : 0;
+                case 3: return !label(c[1]) || !label(c[2]) ? ILLEGAL : Check.mayFlow(c[1], c[2]) ? 1 : 0;
                 case 14: return !subject(c[1]) ? ILLEGAL : sight(c[1], c[2]);
                 case 15: return !label(c[1]) || c[2] < 0 || c[2] > 3 ? ILLEGAL : told(c[1], c[2]);
                 default: return request(c);
@@ -224,7 +220,7 @@ final class ModelTest {
         }
 
         private int answer(int[] c, int own, List<Integer> sight) {
-            if (c[0] >= 9 && c[0] <= 12 && !flow(c[2], own)) {
+            if (c[0] >= 9 && c[0] <= 12 && !Check.mayFlow(c[2], own)) {
                 return -2;
             }
             Paper paper = papers.get(16 * c[2] + c[3]);
@@ -243,7 +239,7 @@ final class ModelTest {
         }
 
         private int make(int own, int label, int key, int folder) {
-            if (!flow(own, label) || folder != -1 && !flow(folder / 16, label)) {
+            if (!Check.mayFlow(own, label) || folder != -1 && !Check.mayFlow(folder / 16, label)) {
                 return -2;
             }
             boolean there = papers.containsKey(key);
@@ -281,7 +277,7 @@ final class ModelTest {
         }
 
         private int give(int own, int label, Paper paper, int value) {
-            if (own == label || !flow(own, label)) {
+            if (own == label || !Check.mayFlow(own, label)) {
                 return -2;
             }
             if (used(own) >= quotaOf(own)) {
@@ -313,7 +309,7 @@ final class ModelTest {
 
         private int listed(int own, int folder, List<Integer> sight) {
             papers.forEach((key, paper) -> {
-                if (paper.folder == folder && flow(key / 16, own)) {
+                if (paper.folder == folder && Check.mayFlow(key / 16, own)) {
                     sight.add(key);
                 }
             });
@@ -396,10 +392,6 @@ final class ModelTest {
         private int sight(int subject, int i) {
             List<Integer> sight = sights.getOrDefault(subject, List.of());
             return i >= 0 && i < sight.size() ? sight.get(i) : 0;
-        }
-
-        private static boolean flow(int a, int b) {
-            return a % 4 <= b % 4 && (a & b & 60) == (a & 60) && a / 64 % 4 >= b / 64 % 4 && (a & b & 768) == (b & 768);
         }
 
         private static boolean subject(int subject) {

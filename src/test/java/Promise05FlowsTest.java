@@ -29,28 +29,10 @@ final class Promise05FlowsTest {
             TierHouse x = new TierHouse();
             for (int k = 0; k < 200; k++) {
                 int to = (from + k * 37) % 1024;
-                Check.same("flows(" + from + ", " + to + ")", x.flows(from, to), due(from, to));
-                Check.same("flows(" + to + ", " + from + ")", x.flows(to, from), due(to, from));
+                Check.same("flows(" + from + ", " + to + ")", x.flows(from, to), Check.mayFlow(from, to));
+                Check.same("flows(" + to + ", " + from + ")", x.flows(to, from), Check.mayFlow(to, from));
             }
         }
-    }
-
-    /** Told bit by bit, so as not to be the program's own words. */
-    private static boolean due(int from, int to) {
-        if (from % 4 > to % 4 || from / 64 % 4 < to / 64 % 4) {
-            return false;
-        }
-        for (int secret = 4; secret <= 32; secret *= 2) {
-            if (from / secret % 2 == 1 && to / secret % 2 == 0) {
-                return false;
-            }
-        }
-        for (int warrant = 256; warrant <= 512; warrant *= 2) {
-            if (to / warrant % 2 == 1 && from / warrant % 2 == 0) {
-                return false;
-            }
-        }
-        return true;
     }
 
     private static void wrongInputs() {

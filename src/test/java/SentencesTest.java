@@ -9,9 +9,9 @@ import java.util.regex.Pattern;
 import java.util.stream.Stream;
 
 /**
- * Each sentence of the document's terms and promises is quoted by a test, and no test quotes what the
- * document does not say, so that a sentence that comes or changes asks for a test. It runs in the
- * project's folder.
+ * Each sentence of the document, from what it is to its last promise, is quoted by a test, and no test
+ * quotes what the document does not say, so that a sentence that comes or changes asks for a test. It
+ * runs in the project's folder.
  */
 final class SentencesTest {
     private static final Path DOCUMENT = Path.of("../shared/DOC.md");
@@ -35,11 +35,12 @@ final class SentencesTest {
 
     /** Without headings, the class's face and the methods' heads, which FaceTest holds. */
     private static String sentencesOf(String document) {
-        int start = document.indexOf("## Terms");
+        int start = document.indexOf("## What it is");
+        int face = document.indexOf("## The public face");
+        int terms = document.indexOf("## Terms");
         int end = document.indexOf("## Not promised");
-        Check.same("the document has its parts", start >= 0 && end > start, true);
-        int uses = document.indexOf("An object is used");
-        String text = document.substring(uses, document.indexOf('\n', uses)) + "\n" + document.substring(start, end);
+        Check.same("the document has its parts", start >= 0 && face > start && terms > face && end > terms, true);
+        String text = document.substring(start, face) + document.substring(terms, end);
         return text.replaceAll("(?m)^(#.*|```.*)$", " ").replaceAll("`[^`\n]*`:?", " ").replaceAll("\\s+", " ");
     }
 
